@@ -244,7 +244,7 @@ public final class Cursorlist {
         Cursor putter = cursorAt(cursor);
         demandItem(item);
         demandThere(putter);
-        if (putter.isStale || !putter.putIn(rowUnder(putter), item)) {
+        if (putter.isStale || !putter.putHere(rowUnder(putter), item)) {
             return refuse();
         }
         makeStale(putter.list, cursor);
@@ -615,13 +615,13 @@ public final class Cursorlist {
     }
 
     private boolean addsUp(Row one, Row other) {
-        if (result.becomeSum(one, other) && !isResultAt(one, other, false)) {
+        if (result.becomeSum(one, other) && !agreesWithResult(one, other, false)) {
             return false;
         }
-        return !result.becomeProduct(one, other) || isResultAt(one, other, true);
+        return !result.becomeProduct(one, other) || agreesWithResult(one, other, true);
     }
 
-    private boolean isResultAt(Row one, Row other, boolean isProduct) {
+    private boolean agreesWithResult(Row one, Row other, boolean isProduct) {
         return isResultAt(one, other, isProduct, 2)
                 && isResultAt(one, other, isProduct, 3)
                 && isResultAt(one, other, isProduct, -1);
@@ -956,7 +956,7 @@ public final class Cursorlist {
             return row.itemAt(last);
         }
 
-        private boolean putIn(Row row, int item) {
+        private boolean putHere(Row row, int item) {
             if (!row.putIn(index, item)) {
                 return false;
             }

@@ -343,6 +343,8 @@ final class CursorsTest {
         Check.due(tellAll(x, 1), "2 2 1 1 1 0");
         x.open(2, 2, 3);
         Check.due(tellAll(x, 2), "2 3 2 0 1 0");
+        x.open(2, 2, 1);
+        Check.due(tellAll(x, 2), "2 1 0 1 1 0");
         x.open(0, 1, 0);
         Check.due(tellAll(x, 0), "1 0 -1 0 0 0");
         x.clear(2);

@@ -68,6 +68,7 @@ final class HouseTest {
         Cursorlist x = new Cursorlist();
         Check.due(x.isSound(), true);
         x.places(0, 8);
+        Check.due(x.isSound(), true);
         x.reverse(0);
         Check.fill(x, 1, -9999, 9999, -9999, 5000);
         Check.fill(x, 2, 99, -100);

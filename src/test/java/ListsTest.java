@@ -497,6 +497,8 @@ final class ListsTest {
         Check.due(x.areSame(0, 1), false);
         Check.fill(x, 1, 2, 1, 3);
         Check.due(x.areSame(0, 1), false);
+        Check.fill(x, 1, 7, 2, 3);
+        Check.due(x.areSame(0, 1), false);
         Check.dueLeavesCursors(x, () -> x.areSame(0, 1));
         Check.dueNoPlace(x, () -> x.areSame(4, 0));
         Check.dueNoPlace(x, () -> x.areSame(0, 4));

@@ -109,6 +109,9 @@ final class PolynomialsTest {
         Check.dueText(x, 1, "");
         Check.dueMakesStale(x, 0, () -> x.shift(0));
         Check.dueMakesStale(x, 1, () -> x.shift(1));
+        Check.fill(x, 2, 7);
+        Check.due(x.shift(2), 2);
+        Check.dueText(x, 2, "0 7");
         x.places(2, 15);
         Check.due(x.shift(2), 16);
         Check.dueRefused(x, () -> x.shift(2));

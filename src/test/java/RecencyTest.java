@@ -48,8 +48,8 @@ final class RecencyTest {
         Cursorlist x = new Cursorlist();
         Check.due(x.forget(), 0);
         x.ask(5);
-        x.ask(6);
-        x.ask(5);
+        x.ask(0);
+        x.ask(7);
         x.places(0, 8);
         Check.due(x.forget(), 3);
         Check.due(x.forget(), 0);
