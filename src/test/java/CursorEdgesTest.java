@@ -53,10 +53,12 @@ final class CursorEdgesTest {
         Edge.places(name + ": cursor", 0, 2, allStand, call);
         for (int each = 0; each < 3; each++) {
             int cursor = each;
-            Edge.badState(name + ": not there, " + cursor, allStand.andThen(x -> x.shut(cursor)), x -> call.apply(x, cursor));
+            Edge.badState(name + ": not there, " + cursor, allStand.andThen(x -> x.shut(cursor)),
+                    x -> call.apply(x, cursor));
         }
         Edge.badState(name + ": never there", Edge.lists("4 5"), x -> call.apply(x, 0));
-        Edge.badState(name + ": shut when it was STALE", stale("4 5", 0).andThen(x -> x.shut(0)), x -> call.apply(x, 0));
+        Edge.badState(name + ": shut when it was STALE", stale("4 5", 0).andThen(x -> x.shut(0)),
+                x -> call.apply(x, 0));
     }
 
     private static Function<Cursorlist, Object> standsThen(Function<Cursorlist, Object> call) {
@@ -70,7 +72,8 @@ final class CursorEdgesTest {
         Edge.places("27: open: place in none", 0, 0, Edge.lists("", "3"), (x, place) -> x.open(0, 0, place));
         Edge.places("27: open: place in 16", 0, 16, Edge.lists(Edge.SIXTEEN), (x, place) -> x.open(0, 0, place));
         Edge.noPlace("27: open: a place that was", Edge.lists("4 5").andThen(x -> x.take(0, 0)), x -> x.open(0, 0, 2));
-        Edge.becomes("27: open: ahead of all", Edge.lists("4 5 6"), standsThen(x -> x.open(0, 0, 0)), "3 at 0", "4 5 6");
+        Edge.becomes("27: open: ahead of all", Edge.lists("4 5 6"), standsThen(x -> x.open(0, 0, 0)), "3 at 0",
+                "4 5 6");
         Edge.becomes("27: open: between", Edge.lists("4 5 6"), standsThen(x -> x.open(0, 0, 1)), "2 at 1", "4 5 6");
         Edge.becomes("27: open: behind all", Edge.lists("4 5 6"), standsThen(x -> x.open(0, 0, 3)), "0 at 3", "4 5 6");
         Edge.becomes("27: open: over none", Edge.lists(""), standsThen(x -> x.open(0, 0, 0)), "0 at 0");
@@ -126,7 +129,8 @@ final class CursorEdgesTest {
 
     private static void forth() {
         needsCursor("29: forth", (x, cursor) -> x.forth(cursor));
-        Edge.becomes("29: forth: from ahead of all", standing("4 5", 0), standsThen(x -> x.forth(0)), "4 at 1", "4 5", "3");
+        Edge.becomes("29: forth: from ahead of all", standing("4 5", 0), standsThen(x -> x.forth(0)), "4 at 1", "4 5",
+                "3");
         Edge.becomes("29: forth: to behind all", standing("4 5", 1), standsThen(x -> x.forth(0)), "5 at 2", "4 5", "3");
         Edge.refuses("29: forth: STALE", stale("4 5", 0), x -> x.forth(0));
         Edge.refuses("29: forth: STALE goes ahead of NOTHING", stale("4 5", 1), x -> x.forth(0));
@@ -152,8 +156,8 @@ final class CursorEdgesTest {
         Edge.tells("29: forth: NOTHING twice", gone("4 5", 1), x -> x.forth(0) + x.forth(0), 20000);
         Edge.tells("29: forth: NOTHING behind, and LAST is none", standing("4 5", 2), x -> x.forth(0), 10000);
         Edge.tells("29: forth: NOTHING over none", standing("", 0), x -> x.forth(0), 10000);
-        Edge.becomes("29: forth: after NOTHING LAST can be cut", gone("4 5", 1), x -> x.forth(0) + " " + x.cuts(0), "10000 1",
-                "4", "3");
+        Edge.becomes("29: forth: after NOTHING LAST can be cut", gone("4 5", 1), x -> x.forth(0) + " " + x.cuts(0),
+                "10000 1", "4", "3");
     }
 
     private static void back() {
@@ -162,7 +166,8 @@ final class CursorEdgesTest {
         Edge.becomes("30: back: to ahead of all", standing("4 5", 1), standsThen(x -> x.back(0)), "4 at 0", "4 5", "3");
         Edge.becomes("30: back: what forth told", gone("4 5", 0), standsThen(x -> x.back(0)), "4 at 0", "4 5", "3");
         Edge.refuses("30: back: STALE", stale("4 5", 0), x -> x.back(0));
-        Edge.refuses("30: back: STALE goes ahead of NOTHING", standing("4 5", 0).andThen(x -> x.trim(0)), x -> x.back(0));
+        Edge.refuses("30: back: STALE goes ahead of NOTHING", standing("4 5", 0).andThen(x -> x.trim(0)),
+                x -> x.back(0));
         Edge.leavesCursors("30: back leaves cursors over it", Edge.lists("4 5"), x -> {
             int place = x.ofCursor(1, 1);
             x.back(1);
@@ -186,24 +191,26 @@ final class CursorEdgesTest {
         Edge.tells("30: back: NOTHING twice", atTheBeginning, x -> x.back(0) + x.back(0), 20000);
         Edge.tells("30: back: NOTHING ahead, and LAST is none", standing("4 5", 0), x -> x.back(0), 10000);
         Edge.tells("30: back: NOTHING over none", standing("", 0), x -> x.back(0), 10000);
-        Edge.becomes("30: back: after NOTHING LAST can be cut", atTheBeginning, x -> x.back(0) + " " + x.cuts(0), "10000 0",
-                "5", "3");
+        Edge.becomes("30: back: after NOTHING LAST can be cut", atTheBeginning, x -> x.back(0) + " " + x.cuts(0),
+                "10000 0", "5", "3");
     }
 
     private static void puts() {
         needsCursor("31: puts", (x, cursor) -> x.puts(cursor, 9));
         Edge.arguments("31: puts: item", -9999, 9999, gone("4 5", 0), (x, item) -> x.puts(0, item));
         Edge.noPlace("31: puts: the cursor goes ahead of the item", gone("4 5", 0), x -> x.puts(3, 10000));
-        Edge.badArgument("31: puts: the item goes ahead of its not being there", Edge.lists("4"), x -> x.puts(0, 10000));
+        Edge.badArgument("31: puts: the item goes ahead of its not being there", Edge.lists("4"),
+                x -> x.puts(0, 10000));
         Edge.badArgument("31: puts: the item goes ahead of STALE", stale("4 5", 0), x -> x.puts(0, -10000));
         Edge.refuses("31: puts: STALE", stale("4 5", 0), x -> x.puts(0, 9));
         Edge.becomes("31: puts: over none", standing("", 0), standsThen(x -> x.puts(0, 9)), "1 at 1", "9", "3");
-        Edge.becomes("31: puts: ahead of all", standing("4 5", 0), standsThen(x -> x.puts(0, 9999)), "1 at 1", "9999 4 5",
+        Edge.becomes("31: puts: ahead of all", standing("4 5", 0), standsThen(x -> x.puts(0, 9999)), "1 at 1",
+                "9999 4 5", "3");
+        Edge.becomes("31: puts: between", standing("4 5", 1), standsThen(x -> x.puts(0, -9999)), "2 at 2", "4 -9999 5",
                 "3");
-        Edge.becomes("31: puts: between", standing("4 5", 1), standsThen(x -> x.puts(0, -9999)), "2 at 2", "4 -9999 5", "3");
         Edge.becomes("31: puts: behind all", standing("4 5", 2), standsThen(x -> x.puts(0, 9)), "3 at 3", "4 5 9", "3");
-        Edge.becomes("31: puts: stands behind that", standing("4 5", 1), x -> x.puts(0, 9) + " " + x.forth(0), "2 5", "4 9 5",
-                "3");
+        Edge.becomes("31: puts: stands behind that", standing("4 5", 1), x -> x.puts(0, 9) + " " + x.forth(0), "2 5",
+                "4 9 5", "3");
         Edge.refuses("31: puts: no LAST then, after forth", gone("4 5", 0).andThen(x -> x.puts(0, 9)), x -> x.cuts(0));
         Edge.refuses("31: puts: no LAST then, after back",
                 standing("4 5", 1).andThen(x -> x.back(0)).andThen(x -> x.puts(0, 9)), x -> x.changes(0, 8));
@@ -213,7 +220,8 @@ final class CursorEdgesTest {
 
     private static void putsInto16() {
         Edge.becomes("31: puts: into 15", standing(Edge.FIFTEEN, 15), x -> x.puts(0, 15), 16, Edge.SIXTEEN, "3");
-        Edge.becomes("31: puts: ahead of 15", standing(Edge.FIFTEEN, 0), x -> x.puts(0, 9), 1, "9 " + Edge.FIFTEEN, "3");
+        Edge.becomes("31: puts: ahead of 15", standing(Edge.FIFTEEN, 0), x -> x.puts(0, 9), 1, "9 " + Edge.FIFTEEN,
+                "3");
         Edge.refuses("31: puts: into 16, ahead", standing(Edge.SIXTEEN, 0), x -> x.puts(0, 9));
         Edge.refuses("31: puts: into 16, behind", standing(Edge.SIXTEEN, 16), x -> x.puts(0, 9));
         Edge.refuses("31: puts: into 16, and LAST stays", gone(Edge.SIXTEEN, 4), x -> x.puts(0, 9));
@@ -226,8 +234,10 @@ final class CursorEdgesTest {
 
     private static void cuts() {
         needsCursor("32: cuts", (x, cursor) -> x.cuts(cursor));
-        Edge.becomes("32: cuts: the first, after forth", gone("4 5 6", 0), standsThen(x -> x.cuts(0)), "0 at 0", "5 6", "3");
-        Edge.becomes("32: cuts: the last, after forth", gone("4 5 6", 2), standsThen(x -> x.cuts(0)), "2 at 2", "4 5", "3");
+        Edge.becomes("32: cuts: the first, after forth", gone("4 5 6", 0), standsThen(x -> x.cuts(0)), "0 at 0", "5 6",
+                "3");
+        Edge.becomes("32: cuts: the last, after forth", gone("4 5 6", 2), standsThen(x -> x.cuts(0)), "2 at 2", "4 5",
+                "3");
         Edge.becomes("32: cuts: the first, after back", standing("4 5 6", 1).andThen(x -> x.back(0)),
                 standsThen(x -> x.cuts(0)), "0 at 0", "5 6", "3");
         Edge.becomes("32: cuts: the last, after back", standing("4 5 6", 3).andThen(x -> x.back(0)),
@@ -237,9 +247,10 @@ final class CursorEdgesTest {
                 standsThen(x -> x.cuts(0)), "0 at 0", "", "3");
         Edge.becomes("32: cuts: the last of 16", gone(Edge.SIXTEEN, 15), x -> x.cuts(0), 15, Edge.FIFTEEN, "3");
         Edge.becomes("32: cuts: the first of 16", gone("9 " + Edge.FIFTEEN, 0), x -> x.cuts(0), 0, Edge.FIFTEEN, "3");
-        Edge.tells("32: cuts: does not make itself STALE", gone("4 5", 0).andThen(x -> x.cuts(0)), x -> x.ofCursor(0, 5), 0);
-        Edge.becomes("32: cuts: goes on from there", gone("4 5 6", 0), x -> x.cuts(0) + " " + x.forth(0) + " " + x.cuts(0),
-                "0 5 0", "6", "3");
+        Edge.tells("32: cuts: does not make itself STALE", gone("4 5", 0).andThen(x -> x.cuts(0)),
+                x -> x.ofCursor(0, 5), 0);
+        Edge.becomes("32: cuts: goes on from there", gone("4 5 6", 0),
+                x -> x.cuts(0) + " " + x.forth(0) + " " + x.cuts(0), "0 5 0", "6", "3");
     }
 
     private static void cutsWithoutLast() {
@@ -251,9 +262,10 @@ final class CursorEdgesTest {
         Edge.refuses("32: cuts: NOTHING is no LAST", standing("4 5", 2).andThen(x -> x.forth(0)), x -> x.cuts(0));
         Edge.refuses("32: cuts: over none", standing("", 0).andThen(x -> x.back(0)), x -> x.cuts(0));
         Edge.refuses("32: cuts: STALE, with LAST", stale("4 5", 0), x -> x.cuts(0));
-        Edge.refuses("32: cuts: STALE and without LAST is counted once", standing("4 5", 1).andThen(x -> x.rotate(0, 0)),
-                x -> x.cuts(0));
-        Edge.refuses("32: cuts: REFUSED leaves other cursors", gone("4 5", 0).andThen(x -> x.open(1, 0, 2)), x -> x.cuts(1));
+        Edge.refuses("32: cuts: STALE and without LAST is counted once",
+                standing("4 5", 1).andThen(x -> x.rotate(0, 0)), x -> x.cuts(0));
+        Edge.refuses("32: cuts: REFUSED leaves other cursors", gone("4 5", 0).andThen(x -> x.open(1, 0, 2)),
+                x -> x.cuts(1));
         Edge.becomes("32: cuts: a LAST told since it cut", gone("4 5 6", 1).andThen(x -> x.cuts(0)),
                 x -> x.back(0) + " " + x.cuts(0), "4 0", "6", "3");
         Edge.becomes("32: cuts: a LAST told since it put", gone("4 5 6", 0).andThen(x -> x.puts(0, 9)),
@@ -264,22 +276,23 @@ final class CursorEdgesTest {
         needsCursor("33: changes", (x, cursor) -> x.changes(cursor, 9));
         Edge.arguments("33: changes: item", -9999, 9999, gone("4 5", 0), (x, item) -> x.changes(0, item));
         Edge.noPlace("33: changes: the cursor goes ahead of the item", gone("4 5", 0), x -> x.changes(3, 10000));
-        Edge.badArgument("33: changes: the item goes ahead of its not being there", Edge.lists("4"), x -> x.changes(0, 10000));
+        Edge.badArgument("33: changes: the item goes ahead of its not being there", Edge.lists("4"),
+                x -> x.changes(0, 10000));
         Edge.badArgument("33: changes: the item goes ahead of STALE", stale("4 5", 0), x -> x.changes(0, 10000));
         Edge.badArgument("33: changes: the item goes ahead of no LAST", standing("4 5", 0), x -> x.changes(0, -10000));
-        Edge.becomes("33: changes: the first, after forth", gone("4 5", 0), standsThen(x -> x.changes(0, 9999)), "1 at 1",
-                "9999 5", "3");
-        Edge.becomes("33: changes: the last, after forth", gone("4 5", 1), standsThen(x -> x.changes(0, -9999)), "2 at 2",
-                "4 -9999", "3");
+        Edge.becomes("33: changes: the first, after forth", gone("4 5", 0), standsThen(x -> x.changes(0, 9999)),
+                "1 at 1", "9999 5", "3");
+        Edge.becomes("33: changes: the last, after forth", gone("4 5", 1), standsThen(x -> x.changes(0, -9999)),
+                "2 at 2", "4 -9999", "3");
         Edge.becomes("33: changes: the first, after back", gone("4 5", 0).andThen(x -> x.back(0)),
                 standsThen(x -> x.changes(0, 9)), "0 at 0", "9 5", "3");
         Edge.becomes("33: changes: the last, after back", standing("4 5", 2).andThen(x -> x.back(0)),
                 standsThen(x -> x.changes(0, 9)), "1 at 1", "4 9", "3");
         Edge.becomes("33: changes: of 16", gone(Edge.SIXTEEN, 15), x -> x.changes(0, 9), 16, Edge.FIFTEEN + " 9", "3");
-        Edge.becomes("33: changes: that is LAST then", gone("4 5", 0), x -> x.changes(0, 9) + " " + x.changes(0, 8), "1 1",
-                "8 5", "3");
-        Edge.becomes("33: changes: that is LAST then, and is cut", gone("4 5", 0), x -> x.changes(0, 9) + " " + x.cuts(0),
-                "1 0", "5", "3");
+        Edge.becomes("33: changes: that is LAST then", gone("4 5", 0), x -> x.changes(0, 9) + " " + x.changes(0, 8),
+                "1 1", "8 5", "3");
+        Edge.becomes("33: changes: that is LAST then, and is cut", gone("4 5", 0),
+                x -> x.changes(0, 9) + " " + x.cuts(0), "1 0", "5", "3");
         Edge.leavesCursors("33: changes leaves cursors over it", Edge.lists("4 5", "6 7", "8", "9"), x -> {
             int list = x.ofCursor(1, 0);
             int place = x.ofCursor(1, 1);
@@ -294,11 +307,13 @@ final class CursorEdgesTest {
         Edge.refuses("33: changes: LAST is none at first", standing("4 5", 1), x -> x.changes(0, 9));
         Edge.refuses("33: changes: LAST is none since it put", gone("4 5", 0).andThen(x -> x.puts(0, 9)),
                 x -> x.changes(0, 8));
-        Edge.refuses("33: changes: LAST is none since it cut", gone("4 5 6", 0).andThen(x -> x.cuts(0)), x -> x.changes(0, 8));
-        Edge.refuses("33: changes: NOTHING is no LAST", standing("4 5", 0).andThen(x -> x.back(0)), x -> x.changes(0, 8));
-        Edge.refuses("33: changes: STALE, with LAST", stale("4 5", 0), x -> x.changes(0, 8));
-        Edge.refuses("33: changes: STALE and without LAST is counted once", standing("4 5", 1).andThen(x -> x.rotate(0, 0)),
+        Edge.refuses("33: changes: LAST is none since it cut", gone("4 5 6", 0).andThen(x -> x.cuts(0)),
                 x -> x.changes(0, 8));
+        Edge.refuses("33: changes: NOTHING is no LAST", standing("4 5", 0).andThen(x -> x.back(0)),
+                x -> x.changes(0, 8));
+        Edge.refuses("33: changes: STALE, with LAST", stale("4 5", 0), x -> x.changes(0, 8));
+        Edge.refuses("33: changes: STALE and without LAST is counted once",
+                standing("4 5", 1).andThen(x -> x.rotate(0, 0)), x -> x.changes(0, 8));
     }
 
     private static void lastByPlace() {
@@ -384,12 +399,13 @@ final class CursorEdgesTest {
         Edge.refuses("34: meet: over different lists", gone("4 5", 0).andThen(x -> x.open(1, 1, 1)), x -> x.meet(0, 1));
         Edge.refuses("34: meet: a is STALE", stale("4 5", 0).andThen(x -> x.open(1, 0, 2)), x -> x.meet(0, 1));
         Edge.refuses("34: meet: b is STALE", stale("4 5", 1).andThen(x -> x.open(1, 0, 0)), x -> x.meet(1, 0));
-        Edge.refuses("34: meet: both are STALE, counted once", two("4 5", 0, 2).andThen(x -> x.trim(0)), x -> x.meet(0, 1));
+        Edge.refuses("34: meet: both are STALE, counted once", two("4 5", 0, 2).andThen(x -> x.trim(0)),
+                x -> x.meet(0, 1));
         Edge.refuses("34: meet: STALE at the same INDEX", two("4 5", 1, 1).andThen(x -> x.trim(0)), x -> x.meet(0, 1));
         Edge.refuses("34: meet: STALE, over different lists, and behind",
                 stale("4 5", 1).andThen(x -> x.open(1, 1, 0)), x -> x.meet(0, 1));
-        Edge.refuses("34: meet: LAST of both stays", gone("4 5", 1).andThen(x -> x.open(1, 0, 1)).andThen(x -> x.back(1)),
-                x -> x.meet(0, 1));
+        Edge.refuses("34: meet: LAST of both stays",
+                gone("4 5", 1).andThen(x -> x.open(1, 0, 1)).andThen(x -> x.back(1)), x -> x.meet(0, 1));
     }
 
     private static String tellAll(Cursorlist x, int cursor) {
@@ -403,11 +419,13 @@ final class CursorEdgesTest {
     private static void ofCursor() {
         Edge.places("35: ofCursor: cursor", 0, 2, Edge.watched("4", "5"), (x, cursor) -> x.ofCursor(cursor, 0));
         Edge.arguments("35: ofCursor: what", 0, 5, Edge.watched("4", "5"), (x, what) -> x.ofCursor(0, what));
-        Edge.arguments("35: ofCursor: what of one that is not there", 0, 5, Edge.lists("4"), (x, what) -> x.ofCursor(0, what));
+        Edge.arguments("35: ofCursor: what of one that is not there", 0, 5, Edge.lists("4"),
+                (x, what) -> x.ofCursor(0, what));
         Edge.arguments("35: ofCursor: what of a STALE one", 0, 5, stale("4", 0), (x, what) -> x.ofCursor(0, what));
         Edge.noPlace("35: ofCursor: the cursor goes ahead of what", Edge.watched("4"), x -> x.ofCursor(3, 6));
         Edge.tells("35: ofCursor: never there", Edge.lists("4"), x -> tellAll(x, 0), "-1 -1 -1 -1 -1 -1");
-        Edge.tells("35: ofCursor: shut", gone("4 5", 0).andThen(x -> x.shut(0)), x -> tellAll(x, 0), "-1 -1 -1 -1 -1 -1");
+        Edge.tells("35: ofCursor: shut", gone("4 5", 0).andThen(x -> x.shut(0)), x -> tellAll(x, 0),
+                "-1 -1 -1 -1 -1 -1");
         Edge.tells("35: ofCursor: ahead of all", standing("4 5", 0), x -> tellAll(x, 0), "0 0 -1 1 0 0");
         Edge.tells("35: ofCursor: between", standing("4 5", 1), x -> tellAll(x, 0), "0 1 0 1 1 0");
         Edge.tells("35: ofCursor: behind all", standing("4 5", 2), x -> tellAll(x, 0), "0 2 1 0 1 0");

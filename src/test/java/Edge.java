@@ -3,9 +3,9 @@ import java.util.function.Consumer;
 import java.util.function.Function;
 
 /**
- * Boundary cases. Each is a test of its own: an object is made ready, then one call is made, and what it answers and what
- * it leaves behind is compared with what is due. "Changes nothing" is looked at on a twin that was made ready alike and
- * not called: all that the two tell afterwards is the same, up to which item each cursor told last.
+ * Boundary cases. Each is a test of its own: an object is made ready, then one call is made, and what it answers and
+ * what it leaves behind is compared with what is due. "Changes nothing" is looked at on a twin that was made ready alike
+ * and not called: all that the two tell afterwards is the same, up to which item each cursor told last.
  */
 final class Edge {
 
@@ -31,7 +31,7 @@ final class Edge {
         };
     }
 
-    /** So too, and over each of lists 0 to 2 a cursor that told the first item there: it shows what a call does to it. */
+    /** So too, and over each of lists 0 to 2 a cursor that told the first item: it shows what a call does to it. */
     static Consumer<Cursorlist> watched(String... texts) {
         return lists(texts).andThen(x -> {
             for (int cursor = 0; cursor < 3; cursor++) {
@@ -120,8 +120,8 @@ final class Edge {
         return x;
     }
 
-    private static void unchanged(String name, Consumer<Cursorlist> ready, Function<Cursorlist, Object> call, String want,
-            int counted) {
+    private static void unchanged(String name, Consumer<Cursorlist> ready, Function<Cursorlist, Object> call,
+            String want, int counted) {
         Check.test(name, () -> {
             Cursorlist x = made(ready);
             Cursorlist twin = made(ready);
@@ -160,7 +160,7 @@ final class Edge {
         }
     }
 
-    /** All that an object comes to: what it tells of itself, and what it answers when its cursors and askings are used. */
+    /** All that an object comes to: what it tells of itself, and what its cursors and askings answer when used. */
     private static String allOf(Cursorlist x) {
         StringBuilder all = new StringBuilder(Check.stateOf(x));
         for (int cursor = 0; cursor < 3; cursor++) {

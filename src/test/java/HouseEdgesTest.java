@@ -37,7 +37,8 @@ final class HouseEdgesTest {
         Consumer<Cursorlist> three = Edge.watched("4 5", "6", "7");
         Edge.tells("48: house: no CURSORS", Edge.lists("4"), x -> x.house(1) + " " + x.house(2), "0 0");
         Edge.tells("48: house: three CURSORS", three, x -> x.house(1) + " " + x.house(2), "3 0");
-        Edge.tells("48: house: the last CURSOR alone", Edge.lists("4").andThen(x -> x.open(2, 0, 0)), x -> x.house(1), 1);
+        Edge.tells("48: house: the last CURSOR alone", Edge.lists("4").andThen(x -> x.open(2, 0, 0)),
+                x -> x.house(1), 1);
         Edge.tells("48: house: one opened twice counts once", Edge.lists("4").andThen(x -> x.open(2, 0, 0))
                 .andThen(x -> x.open(2, 0, 1)), x -> x.house(1), 1);
         Edge.tells("48: house: one shut does not count", three.andThen(x -> x.shut(1)), x -> x.house(1), 2);
@@ -97,8 +98,8 @@ final class HouseEdgesTest {
 
     private static void knock() {
         Edge.becomes("49: knock: the first", Edge.watched("4"), x -> x.knock() + " " + x.house(4), "1 1", "4");
-        Edge.becomes("49: knock: the second", Edge.watched("4").andThen(x -> x.knock()), x -> x.knock() + " " + x.house(4),
-                "2 2", "4");
+        Edge.becomes("49: knock: the second", Edge.watched("4").andThen(x -> x.knock()),
+                x -> x.knock() + " " + x.house(4), "2 2", "4");
         Edge.leavesCursors("49: knock leaves cursors", Edge.lists("4 5"), Cursorlist::knock);
         Check.test("49: knock: 500 times", () -> {
             Cursorlist x = new Cursorlist();
@@ -161,7 +162,8 @@ final class HouseEdgesTest {
         told("a new object", Edge.lists());
         told("one item", Edge.lists("4"));
         told("items below 0", Edge.lists("-9999 -1", "0 -1"));
-        told("the most items", Edge.lists(Edge.times(16, 9999), Edge.times(16, -9999), Edge.times(16, 0), Edge.SIXTEEN));
+        told("the most items",
+                Edge.lists(Edge.times(16, 9999), Edge.times(16, -9999), Edge.times(16, 0), Edge.SIXTEEN));
         told("zeros alone", Edge.lists("0 0 0", "", "0"));
         told("cursors at the ends", Edge.lists("4 5").andThen(x -> x.open(0, 0, 0)).andThen(x -> x.open(1, 0, 2)));
         told("a cursor over none", Edge.lists("4 5").andThen(x -> x.open(2, 3, 0)));

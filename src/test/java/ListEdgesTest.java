@@ -35,7 +35,8 @@ final class ListEdgesTest {
     private static void newObject() {
         for (int each = 0; each < 4; each++) {
             int list = each;
-            Edge.tells("1: new: list " + list + " is empty", Edge.lists(), x -> x.size(list) + x.text(list, false), "0");
+            Edge.tells("1: new: list " + list + " is empty", Edge.lists(), x -> x.size(list) + x.text(list, false),
+                    "0");
         }
         Edge.noPlace("1: new: four lists, no fifth", Edge.lists(), x -> x.size(4));
         for (int each = 0; each < 3; each++) {
@@ -44,7 +45,8 @@ final class ListEdgesTest {
             Edge.badState("1: new: cursor " + cursor + " does nothing", Edge.lists(), x -> x.forth(cursor));
         }
         Edge.noPlace("1: new: three cursors, no fourth", Edge.lists(), x -> x.shut(3));
-        Edge.tells("1: new: nothing is asked", Edge.lists(), x -> x.asked(0) + " " + x.asked(1) + " " + x.asked(2), "0 0 -1");
+        Edge.tells("1: new: nothing is asked", Edge.lists(), x -> x.asked(0) + " " + x.asked(1) + " " + x.asked(2),
+                "0 0 -1");
         Edge.tells("1: new: RECENT is 0 to 7", Edge.lists(), Cursorlist::recent, "0 1 2 3 4 5 6 7");
         Edge.tells("1: new: nothing is refused or knocked", Edge.lists(), x -> x.house(3) + " " + x.house(4), "0 0");
         Check.test("1: new: an object has nothing of another one", () -> {
@@ -89,7 +91,8 @@ final class ListEdgesTest {
         Edge.leavesCursors("2: put REFUSED leaves cursors", Edge.lists(Edge.SIXTEEN), x -> x.put(0, 0, 77));
         Edge.badArgument("2: put: the way goes ahead of REFUSED", Edge.watched(Edge.SIXTEEN), x -> x.put(0, 6, 77));
         Edge.badArgument("2: put: the item goes ahead of REFUSED", Edge.watched(Edge.SIXTEEN), x -> x.put(0, 0, 10000));
-        Edge.becomes("2: put: another list may have 16", Edge.lists(Edge.SIXTEEN), x -> x.put(1, 0, 7), 1, Edge.SIXTEEN, "7");
+        Edge.becomes("2: put: another list may have 16", Edge.lists(Edge.SIXTEEN),
+                x -> x.put(1, 0, 7), 1, Edge.SIXTEEN, "7");
     }
 
     private static boolean isLastTaken(int way) {
@@ -105,7 +108,8 @@ final class ListEdgesTest {
             boolean isLast = isLastTaken(way);
             Edge.becomes("3: take by " + way, Edge.lists("4 5 6", "3"), x -> x.take(0, way), isLast ? 6 : 4,
                     isLast ? "4 5" : "5 6", "3");
-            Edge.becomes("3: take by " + way + " of one", Edge.lists("-9999", "3"), x -> x.take(0, way), -9999, "", "3");
+            Edge.becomes("3: take by " + way + " of one", Edge.lists("-9999", "3"), x -> x.take(0, way), -9999, "",
+                    "3");
             Edge.becomes("3: take by " + way + " of 16", Edge.lists("77 " + Edge.FIFTEEN), x -> x.take(0, way),
                     isLast ? 14 : 77, isLast ? "77 0 1 2 3 4 5 6 7 8 9 10 11 12 13" : Edge.FIFTEEN);
             Edge.makesStale("3: take by " + way + " makes stale", 0, Edge.lists("4 5 6", "3"), x -> x.take(0, way));
@@ -124,8 +128,8 @@ final class ListEdgesTest {
         }
         Edge.badArgument("3: take: the way -1 goes ahead of REFUSED", Edge.watched(""), x -> x.take(0, -1));
         Edge.badArgument("3: take: the way 7 goes ahead of NOTHING", Edge.watched(""), x -> x.take(0, 7));
-        Edge.becomes("3: take: what all was taken of can be put to", Edge.lists("1"), x -> x.take(0, 0) + x.put(0, 0, 8), 2,
-                "8");
+        Edge.becomes("3: take: what all was taken of can be put to", Edge.lists("1"),
+                x -> x.take(0, 0) + x.put(0, 0, 8), 2, "8");
     }
 
     private static void look() {
@@ -137,7 +141,8 @@ final class ListEdgesTest {
             boolean isLast = isLastTaken(way);
             Edge.tells("4: look by " + way, Edge.watched("4 5 6", "3"), x -> x.look(0, way), isLast ? 6 : 4);
             Edge.tells("4: look by " + way + " at one", Edge.watched("9999"), x -> x.look(0, way), 9999);
-            Edge.tells("4: look by " + way + " at 16", Edge.watched(Edge.SIXTEEN), x -> x.look(0, way), isLast ? 15 : 0);
+            Edge.tells("4: look by " + way + " at 16", Edge.watched(Edge.SIXTEEN),
+                    x -> x.look(0, way), isLast ? 15 : 0);
             Edge.leavesCursors("4: look by " + way + " leaves cursors", Edge.lists("4 5"), x -> x.look(0, way));
         }
     }
@@ -200,13 +205,16 @@ final class ListEdgesTest {
     }
 
     private static void insertInto16() {
-        Edge.becomes("7: insert: ahead of 15", Edge.lists(Edge.FIFTEEN), x -> x.insert(0, 0, 9), 16, "9 " + Edge.FIFTEEN);
-        Edge.becomes("7: insert: behind 15", Edge.lists(Edge.FIFTEEN), x -> x.insert(0, 15, 9), 16, Edge.FIFTEEN + " 9");
+        Edge.becomes("7: insert: ahead of 15", Edge.lists(Edge.FIFTEEN), x -> x.insert(0, 0, 9), 16,
+                "9 " + Edge.FIFTEEN);
+        Edge.becomes("7: insert: behind 15", Edge.lists(Edge.FIFTEEN),
+                x -> x.insert(0, 15, 9), 16, Edge.FIFTEEN + " 9");
         Edge.refuses("7: insert: ahead of 16", Edge.watched(Edge.SIXTEEN), x -> x.insert(0, 0, 9));
         Edge.refuses("7: insert: between 16", Edge.watched(Edge.SIXTEEN), x -> x.insert(0, 7, 9));
         Edge.refuses("7: insert: behind 16", Edge.watched(Edge.SIXTEEN), x -> x.insert(0, 16, 9));
         Edge.noPlace("7: insert: the place goes ahead of REFUSED", Edge.watched(Edge.SIXTEEN), x -> x.insert(0, 17, 9));
-        Edge.noPlace("7: insert: the place -1 goes ahead of REFUSED", Edge.watched(Edge.SIXTEEN), x -> x.insert(0, -1, 9));
+        Edge.noPlace("7: insert: the place -1 goes ahead of REFUSED", Edge.watched(Edge.SIXTEEN),
+                x -> x.insert(0, -1, 9));
         Edge.badArgument("7: insert: the item goes ahead of REFUSED", Edge.watched(Edge.SIXTEEN),
                 x -> x.insert(0, 16, -10000));
         Edge.leavesCursors("7: insert REFUSED leaves cursors", Edge.lists(Edge.SIXTEEN), x -> x.insert(0, 16, 9));
@@ -221,7 +229,8 @@ final class ListEdgesTest {
         Edge.becomes("8: removeAt: the last", Edge.lists("4 5 6", "3"), x -> x.removeAt(0, 2), 6, "4 5", "3");
         Edge.becomes("8: removeAt: the only one", Edge.lists("4", "3"), x -> x.removeAt(0, 0), 4, "", "3");
         Edge.becomes("8: removeAt: the last of 16", Edge.lists(Edge.SIXTEEN), x -> x.removeAt(0, 15), 15, Edge.FIFTEEN);
-        Edge.becomes("8: removeAt: the first of 16", Edge.lists("9 " + Edge.FIFTEEN), x -> x.removeAt(0, 0), 9, Edge.FIFTEEN);
+        Edge.becomes("8: removeAt: the first of 16", Edge.lists("9 " + Edge.FIFTEEN),
+                x -> x.removeAt(0, 0), 9, Edge.FIFTEEN);
         Edge.makesStale("8: removeAt makes stale", 0, Edge.lists("4 5 6", "3"), x -> x.removeAt(0, 1));
     }
 
@@ -239,7 +248,8 @@ final class ListEdgesTest {
                     Edge.times(15, 5));
             for (String number : NUMBERS_THAT_ARE_NO_ITEM) {
                 int item = Integer.parseInt(number);
-                Edge.becomes(name + "the number " + number, Edge.lists("4 5"), x -> x.drop(0, item, isLast), false, "4 5");
+                Edge.becomes(name + "the number " + number, Edge.lists("4 5"), x -> x.drop(0, item, isLast), false,
+                        "4 5");
             }
             Edge.makesStale(name + "makes stale", 0, Edge.lists("4 5", "4"), x -> x.drop(0, 4, isLast));
             Edge.makesStale(name + "makes stale, also if nothing went", 0, Edge.lists("4 5", "6"),
@@ -251,10 +261,12 @@ final class ListEdgesTest {
     private static void thin() {
         Edge.places("10: thin: list", 0, 3, Edge.watched("1", "3"), (x, list) -> x.thin(list, 1));
         Edge.becomes("10: thin: all alike", Edge.lists(Edge.times(16, 5), "5"), x -> x.thin(0, 5), 16, "", "5");
-        Edge.becomes("10: thin: the first and the last", Edge.lists("5 5 4 5 6 5 5", "5"), x -> x.thin(0, 5), 5, "4 6", "5");
+        Edge.becomes("10: thin: the first and the last", Edge.lists("5 5 4 5 6 5 5", "5"), x -> x.thin(0, 5), 5, "4 6",
+                "5");
         Edge.becomes("10: thin: not there", Edge.lists("4 6", "5"), x -> x.thin(0, 5), 0, "4 6", "5");
         Edge.becomes("10: thin: of none", Edge.lists("", "0"), x -> x.thin(0, 0), 0, "", "0");
-        Edge.becomes("10: thin: what went is not there as 0", Edge.lists("5 4 5"), x -> x.thin(0, 5) + x.thin(0, 0), 2, "4");
+        Edge.becomes("10: thin: what went is not there as 0", Edge.lists("5 4 5"), x -> x.thin(0, 5) + x.thin(0, 0), 2,
+                "4");
         for (String number : NUMBERS_THAT_ARE_NO_ITEM) {
             int item = Integer.parseInt(number);
             Edge.becomes("10: thin: the number " + number, Edge.lists("4 5"), x -> x.thin(0, item), 0, "4 5");
@@ -276,7 +288,8 @@ final class ListEdgesTest {
             Edge.tells(name + "behind 15", Edge.watched(Edge.SIXTEEN), x -> x.indexOf(0, 15, isLast), 15);
             Edge.tells(name + "not there", Edge.watched("4 5", "6"), x -> x.indexOf(0, 6, isLast), -1);
             Edge.tells(name + "in none", Edge.watched("", "0"), x -> x.indexOf(0, 0, isLast), -1);
-            Edge.tells(name + "what went", Edge.lists("4 5").andThen(x -> x.take(0, 1)), x -> x.indexOf(0, 5, isLast), -1);
+            Edge.tells(name + "what went", Edge.lists("4 5").andThen(x -> x.take(0, 1)),
+                    x -> x.indexOf(0, 5, isLast), -1);
             for (String number : NUMBERS_THAT_ARE_NO_ITEM) {
                 int item = Integer.parseInt(number);
                 Edge.tells(name + "the number " + number, Edge.watched("4 5"), x -> x.indexOf(0, item, isLast), -1);
@@ -316,7 +329,8 @@ final class ListEdgesTest {
                     isDown ? "15 14 13 12 11 10 9 8 7 6 5 4 3 2 1 0" : Edge.SIXTEEN);
             Edge.tells(name + "what went", Edge.lists("4 5").andThen(x -> x.clear(0)), x -> x.text(0, isDown), "");
         }
-        Edge.tells("14: text: the longest", Edge.watched(Edge.times(16, -9999)), x -> x.text(0, true), Edge.times(16, -9999));
+        Edge.tells("14: text: the longest", Edge.watched(Edge.times(16, -9999)),
+                x -> x.text(0, true), Edge.times(16, -9999));
     }
 
     private static void clear() {
@@ -358,8 +372,10 @@ final class ListEdgesTest {
     private static void appendAt() {
         Edge.places("17: appendAt: list", 0, 3, Edge.watched("1", "3"), (x, list) -> x.appendAt(list, 0, 0));
         Edge.places("17: appendAt: from", 0, 3, Edge.watched("1", "3"), (x, from) -> x.appendAt(0, 0, from));
-        Edge.places("17: appendAt: place in three", 0, 3, Edge.watched("4 5 6", "3"), (x, place) -> x.appendAt(0, place, 1));
-        Edge.places("17: appendAt: place in none", 0, 0, Edge.watched("", "3 4"), (x, place) -> x.appendAt(0, place, 1));
+        Edge.places("17: appendAt: place in three", 0, 3, Edge.watched("4 5 6", "3"),
+                (x, place) -> x.appendAt(0, place, 1));
+        Edge.places("17: appendAt: place in none", 0, 0, Edge.watched("", "3 4"),
+                (x, place) -> x.appendAt(0, place, 1));
         Edge.noPlace("17: appendAt: a place of from alone", Edge.watched("4", "3 4 5"), x -> x.appendAt(0, 3, 1));
         Edge.noPlace("17: appendAt: no place, and none come", Edge.watched("4", ""), x -> x.appendAt(0, 2, 1));
         Edge.becomes("17: appendAt: ahead", Edge.lists("4 5", "8 9"), x -> x.appendAt(0, 0, 1), 4, "8 9 4 5", "8 9");
@@ -372,7 +388,8 @@ final class ListEdgesTest {
         Edge.becomes("17: appendAt: none to some", Edge.lists("4 5", ""), x -> x.appendAt(0, 1, 1), 2, "4 5");
         Edge.becomes("17: appendAt: some to none", Edge.lists("", "4 5"), x -> x.appendAt(0, 0, 1), 2, "4 5", "4 5");
         Edge.makesStale("17: appendAt makes stale over list alone", 0, Edge.lists("4", "3"), x -> x.appendAt(0, 1, 1));
-        Edge.makesStale("17: appendAt makes stale, also if none came", 0, Edge.lists("4", ""), x -> x.appendAt(0, 0, 1));
+        Edge.makesStale("17: appendAt makes stale, also if none came", 0, Edge.lists("4", ""),
+                x -> x.appendAt(0, 0, 1));
     }
 
     private static void appendAtOver16() {
@@ -380,7 +397,8 @@ final class ListEdgesTest {
                 "77 " + Edge.FIFTEEN, "77");
         Edge.becomes("17: appendAt: itself to just 16", Edge.lists(Edge.EIGHT), x -> x.appendAt(0, 8, 0), 16,
                 Edge.EIGHT + " " + Edge.EIGHT);
-        Edge.becomes("17: appendAt: none to 16", Edge.lists(Edge.SIXTEEN, ""), x -> x.appendAt(0, 16, 1), 16, Edge.SIXTEEN);
+        Edge.becomes("17: appendAt: none to 16", Edge.lists(Edge.SIXTEEN, ""),
+                x -> x.appendAt(0, 16, 1), 16, Edge.SIXTEEN);
         Edge.refuses("17: appendAt: to 17", Edge.watched(Edge.FIFTEEN, "4 5"), x -> x.appendAt(0, 3, 1));
         Edge.refuses("17: appendAt: one to 16", Edge.watched(Edge.SIXTEEN, "4"), x -> x.appendAt(0, 16, 1));
         Edge.refuses("17: appendAt: 9 to themselves", Edge.watched(Edge.EIGHT + " 8"), x -> x.appendAt(0, 4, 0));
@@ -389,6 +407,7 @@ final class ListEdgesTest {
         Edge.noPlace("17: appendAt: the place -1 goes ahead of REFUSED", Edge.watched(Edge.SIXTEEN, "4"),
                 x -> x.appendAt(0, -1, 1));
         Edge.noPlace("17: appendAt: from goes ahead of REFUSED", Edge.watched(Edge.SIXTEEN), x -> x.appendAt(0, 0, 4));
-        Edge.leavesCursors("17: appendAt REFUSED leaves cursors", Edge.lists(Edge.SIXTEEN, "4"), x -> x.appendAt(0, 3, 1));
+        Edge.leavesCursors("17: appendAt REFUSED leaves cursors", Edge.lists(Edge.SIXTEEN, "4"),
+                x -> x.appendAt(0, 3, 1));
     }
 }

@@ -13,6 +13,7 @@ final class PolynomialEdgesTest {
         shift();
         trim();
         derive();
+        afterRefused();
         value();
         valueRests();
         degree();
@@ -26,28 +27,33 @@ final class PolynomialEdgesTest {
         Edge.becomes("36: plus: none and itself", Edge.lists("", "3"), x -> x.plus(0, 0), 0, "", "3");
         Edge.becomes("36: plus: none and some", Edge.lists("", "4 5"), x -> x.plus(0, 1), 2, "4 5", "4 5");
         Edge.becomes("36: plus: some and none", Edge.lists("4 5", ""), x -> x.plus(0, 1), 2, "4 5", "");
-        Edge.becomes("36: plus: the other is longer", Edge.lists("4", "1 -2 3"), x -> x.plus(0, 1), 3, "5 -2 3", "1 -2 3");
+        Edge.becomes("36: plus: the other is longer", Edge.lists("4", "1 -2 3"), x -> x.plus(0, 1), 3, "5 -2 3",
+                "1 -2 3");
         Edge.becomes("36: plus: the other is shorter", Edge.lists("1 -2 3", "4"), x -> x.plus(0, 1), 3, "5 -2 3", "4");
         Edge.becomes("36: plus: both as long", Edge.lists("1 2", "4 5"), x -> x.plus(0, 1), 2, "5 7", "4 5");
         Edge.becomes("36: plus: itself", Edge.lists("4 -5 0"), x -> x.plus(0, 0), 3, "8 -10 0");
-        Edge.becomes("36: plus: sums that are 0 stay", Edge.lists("4 5", "-4 -5"), x -> x.plus(0, 1), 2, "0 0", "-4 -5");
+        Edge.becomes("36: plus: sums that are 0 stay", Edge.lists("4 5", "-4 -5"), x -> x.plus(0, 1), 2, "0 0",
+                "-4 -5");
         Edge.becomes("36: plus: 16 and 16", Edge.lists(Edge.times(16, 5), Edge.times(16, -6)), x -> x.plus(0, 1), 16,
                 Edge.times(16, -1), Edge.times(16, -6));
         Edge.becomes("36: plus: one and 16", Edge.lists("7", Edge.SIXTEEN), x -> x.plus(0, 1), 16,
                 "7" + Edge.SIXTEEN.substring(1), Edge.SIXTEEN);
         Edge.makesStale("36: plus makes stale over list alone", 0, Edge.lists("4 5", "6"), x -> x.plus(0, 1));
-        Edge.makesStale("36: plus makes stale, also if it changes nothing", 0, Edge.lists("4 5", ""), x -> x.plus(0, 1));
+        Edge.makesStale("36: plus makes stale, also if it changes nothing", 0, Edge.lists("4 5", ""),
+                x -> x.plus(0, 1));
         Edge.makesStale("36: plus itself makes stale, also with none", 2, Edge.lists("4 5", ""), x -> x.plus(2, 2));
     }
 
     private static void plusBeyondItems() {
         Edge.becomes("36: plus: just 9999", Edge.lists("9998", "1"), x -> x.plus(0, 1), 1, "9999", "1");
         Edge.becomes("36: plus: just -9999", Edge.lists("-9998", "-1"), x -> x.plus(0, 1), 1, "-9999", "-1");
-        Edge.becomes("36: plus: 9999 and its contrary", Edge.lists("9999", "-9999"), x -> x.plus(0, 1), 1, "0", "-9999");
+        Edge.becomes("36: plus: 9999 and its contrary", Edge.lists("9999", "-9999"), x -> x.plus(0, 1), 1, "0",
+                "-9999");
         Edge.refuses("36: plus: 10000", Edge.watched("9999", "1"), x -> x.plus(0, 1));
         Edge.refuses("36: plus: -10000", Edge.watched("-9999", "-1"), x -> x.plus(0, 1));
         Edge.refuses("36: plus: the most and the most", Edge.watched("9999", "9999"), x -> x.plus(0, 1));
-        Edge.refuses("36: plus: 10000 at the last place alone", Edge.watched("1 2 5000", "3 4 5000"), x -> x.plus(0, 1));
+        Edge.refuses("36: plus: 10000 at the last place alone", Edge.watched("1 2 5000", "3 4 5000"),
+                x -> x.plus(0, 1));
         Edge.refuses("36: plus: 10000 at the first place alone", Edge.watched("5000 1", "5000 2 3"), x -> x.plus(0, 1));
         Edge.refuses("36: plus: itself", Edge.watched("0 5000"), x -> x.plus(0, 0));
         Edge.becomes("36: plus: itself, just so", Edge.lists("4999 -4999"), x -> x.plus(0, 0), 2, "9998 -9998");
@@ -70,16 +76,18 @@ final class PolynomialEdgesTest {
         Edge.becomes("37: times: some", Edge.lists("1 2", "3 0 -5"), x -> x.times(0, 1), 4, "3 6 -5 -10", "3 0 -5");
         Edge.becomes("37: times: itself", Edge.lists("3 0 -5"), x -> x.times(0, 0), 5, "9 0 -30 0 25");
         Edge.makesStale("37: times makes stale over list alone", 0, Edge.lists("4 5", "6"), x -> x.times(0, 1));
-        Edge.makesStale("37: times makes stale, also if it changes nothing", 0, Edge.lists("4 5", "1"), x -> x.times(0, 1));
+        Edge.makesStale("37: times makes stale, also if it changes nothing", 0, Edge.lists("4 5", "1"),
+                x -> x.times(0, 1));
         Edge.makesStale("37: times makes stale, also none by none", 2, Edge.lists("4 5", "1"), x -> x.times(2, 3));
     }
 
     private static void timesTooLong() {
         Edge.becomes("37: times: 16 by one", Edge.lists(Edge.SIXTEEN, "-1"), x -> x.times(0, 1), 16,
                 "0 -1 -2 -3 -4 -5 -6 -7 -8 -9 -10 -11 -12 -13 -14 -15", "-1");
-        Edge.becomes("37: times: one by 16", Edge.lists("1", Edge.SIXTEEN), x -> x.times(0, 1), 16, Edge.SIXTEEN, Edge.SIXTEEN);
-        Edge.becomes("37: times: 15 by two", Edge.lists(Edge.FIFTEEN, "0 1"), x -> x.times(0, 1), 16, "0 " + Edge.FIFTEEN,
-                "0 1");
+        Edge.becomes("37: times: one by 16", Edge.lists("1", Edge.SIXTEEN),
+                x -> x.times(0, 1), 16, Edge.SIXTEEN, Edge.SIXTEEN);
+        Edge.becomes("37: times: 15 by two", Edge.lists(Edge.FIFTEEN, "0 1"), x -> x.times(0, 1), 16,
+                "0 " + Edge.FIFTEEN, "0 1");
         Edge.becomes("37: times: 9 by 8", Edge.lists(Edge.times(9, 1), Edge.times(8, 1)), x -> x.times(0, 1), 16,
                 "1 2 3 4 5 6 7 8 8 7 6 5 4 3 2 1", Edge.times(8, 1));
         Edge.becomes("37: times: 8 by itself", Edge.lists(Edge.times(8, 1)), x -> x.times(0, 0), 15,
@@ -132,7 +140,8 @@ final class PolynomialEdgesTest {
         Edge.becomes("39: trim: all 16 are 0", Edge.lists(Edge.times(16, 0), "0"), x -> x.trim(0), 16, "", "0");
         Edge.becomes("39: trim: no 0 at the end", Edge.lists("0 4", "0"), x -> x.trim(0), 0, "0 4", "0");
         Edge.becomes("39: trim: 0 between stays", Edge.lists("0 4 0 -5 0 0"), x -> x.trim(0), 2, "0 4 0 -5");
-        Edge.becomes("39: trim: all but the first of 16", Edge.lists("4 " + Edge.times(15, 0)), x -> x.trim(0), 15, "4");
+        Edge.becomes("39: trim: all but the first of 16", Edge.lists("4 " + Edge.times(15, 0)), x -> x.trim(0), 15,
+                "4");
         Edge.becomes("39: trim: 16 with the last not 0", Edge.lists(Edge.SIXTEEN), x -> x.trim(0), 0, Edge.SIXTEEN);
         Edge.makesStale("39: trim makes stale", 0, Edge.lists("4 0", "3"), x -> x.trim(0));
         Edge.makesStale("39: trim makes stale, also if nothing went", 0, Edge.lists("4 5", "3"), x -> x.trim(0));
@@ -149,7 +158,8 @@ final class PolynomialEdgesTest {
                 "1 2 3 4 5 6 7 8 9 10 11 12 13 14 15");
         Edge.becomes("40: derive: just 9999", Edge.lists("0 0 0 3333"), x -> x.derive(0), 3, "0 0 9999");
         Edge.becomes("40: derive: just -9999", Edge.lists("0 0 0 -3333"), x -> x.derive(0), 3, "0 0 -9999");
-        Edge.becomes("40: derive: 9999 at the first place is not looked at", Edge.lists("9999 1"), x -> x.derive(0), 1, "1");
+        Edge.becomes("40: derive: 9999 at the first place is not looked at", Edge.lists("9999 1"), x -> x.derive(0), 1,
+                "1");
         Edge.becomes("40: derive: 9990 at the last of 16", Edge.lists(Edge.times(15, 0) + " 666"), x -> x.derive(0), 15,
                 Edge.times(14, 0) + " 9990");
         Edge.refuses("40: derive: 10000", Edge.watched("0 0 5000"), x -> x.derive(0));
@@ -159,6 +169,20 @@ final class PolynomialEdgesTest {
         Edge.makesStale("40: derive makes stale", 0, Edge.lists("4 5", "3"), x -> x.derive(0));
         Edge.makesStale("40: derive makes stale, also with none", 0, Edge.lists("", "3"), x -> x.derive(0));
         Edge.leavesCursors("40: derive REFUSED leaves cursors", Edge.lists("0 0 5000"), x -> x.derive(0));
+    }
+
+    private static void afterRefused() {
+        String[] texts = {"1 2 5000 1", "4 5 6", "7"};
+        Edge.becomes("36: plus: one that was REFUSED part way leaves nothing to the next",
+                Edge.lists(texts).andThen(x -> x.plus(0, 0)), x -> x.plus(1, 2), 3, "1 2 5000 1", "11 5 6", "7");
+        Edge.becomes("37: times: one that was REFUSED part way leaves nothing to the next",
+                Edge.lists(texts).andThen(x -> x.times(0, 0)), x -> x.times(1, 2), 3, "1 2 5000 1", "28 35 42", "7");
+        Edge.becomes("40: derive: one that was REFUSED part way leaves nothing to the next",
+                Edge.lists(texts).andThen(x -> x.derive(0)), x -> x.derive(1), 2, "1 2 5000 1", "5 12", "7");
+        Edge.becomes("40: derive: one that was told leaves nothing to the next",
+                Edge.lists(texts).andThen(x -> x.derive(1)), x -> x.derive(1), 1, "1 2 5000 1", "12", "7");
+        Edge.tells("26: isMirror: one that was told leaves nothing to the next",
+                Edge.lists(texts).andThen(x -> x.isMirror(0)), x -> x.isMirror(2), true);
     }
 
     private static void value() {

@@ -48,11 +48,12 @@ final class RecencyEdgesTest {
         Edge.becomes("43: ask: the 60th", askings(59), x -> x.ask(7) + " " + x.asked(0), "4 60");
         Edge.badState("43: ask: the 61st", askings(60), x -> x.ask(0));
         Edge.badState("43: ask: the 61st, of the key that is first", askings(60), x -> x.ask(3));
-        Edge.badState("43: ask: the 61st, twice", askings(60).andThen(x -> Check.outcomeOf(() -> x.ask(1))), x -> x.ask(0));
+        Edge.badState("43: ask: the 61st, twice", askings(60).andThen(x -> Check.outcomeOf(() -> x.ask(1))),
+                x -> x.ask(0));
         Edge.badArgument("43: ask: the key goes ahead of 60 askings", askings(60), x -> x.ask(8));
         Edge.badArgument("43: ask: the key -1 goes ahead of 60 askings", askings(60), x -> x.ask(-1));
-        Edge.becomes("43: ask: again after forget", askings(60).andThen(x -> x.forget()), x -> x.ask(7) + " " + x.asked(0),
-                "8 1");
+        Edge.becomes("43: ask: again after forget", askings(60).andThen(x -> x.forget()),
+                x -> x.ask(7) + " " + x.asked(0), "8 1");
         Edge.becomes("43: ask: what threw does not count", askings(59).andThen(x -> Check.outcomeOf(() -> x.ask(8))),
                 x -> x.ask(7) + " " + x.asked(0), "4 60");
         Edge.badState("43: ask: 60 again after forget",
@@ -76,7 +77,13 @@ final class RecencyEdgesTest {
             x.forget();
             return x.byOrder(0, 0) + " " + x.byOrder(0, 2);
         }, "0 0", Edge.EIGHT);
-        Edge.becomes("44: forget: leaves lists, refusals and knocks", asking("73", "4 5").andThen(x -> x.knock()), x -> {
+        Edge.becomes("44: forget: nothing costs by an ORDER then, though all were asked", askings(60, Edge.EIGHT),
+                x -> {
+            x.forget();
+            return x.byOrder(0, 0) + " " + x.byOrder(0, 2);
+        }, "0 0", Edge.EIGHT);
+        Edge.becomes("44: forget: leaves lists, refusals and knocks", asking("73", "4 5").andThen(x -> x.knock()),
+                x -> {
             int many = x.forget();
             return many + " " + x.house(0) + " " + x.house(1) + " " + x.house(4);
         }, "2 2 3 1", "4 5");
@@ -94,8 +101,8 @@ final class RecencyEdgesTest {
         Edge.tells("45: asked: no key", Edge.watched("4"), x -> x.asked(2), -1);
         Edge.tells("45: asked: key 0", asking("70"), x -> x.asked(2), 0);
         Edge.tells("45: asked: key 7", asking("07"), x -> x.asked(2), 7);
-        Edge.tells("45: asked: a key that threw is not the last", asking("5").andThen(x -> Check.outcomeOf(() -> x.ask(8))),
-                x -> x.asked(2), 5);
+        Edge.tells("45: asked: a key that threw is not the last",
+                asking("5").andThen(x -> Check.outcomeOf(() -> x.ask(8))), x -> x.asked(2), 5);
         Edge.tells("45: asked: last in RECENT at first", Edge.watched("4"), x -> x.asked(3), 7);
         Edge.tells("45: asked: last in RECENT when the last was asked", asking("7"), x -> x.asked(3), 6);
         Edge.tells("45: asked: last in RECENT when all others were asked", asking("1234567"), x -> x.asked(3), 0);
@@ -120,15 +127,18 @@ final class RecencyEdgesTest {
         Edge.tells("47: byOrder: COST with nothing asked", Edge.watched(Edge.EIGHT), x -> x.byOrder(0, 0), 0);
         Edge.tells("47: byOrder: COST of the first", asking("0", Edge.EIGHT), x -> x.byOrder(0, 0), 1);
         Edge.tells("47: byOrder: COST of the last", asking("7", Edge.EIGHT), x -> x.byOrder(0, 0), 8);
-        Edge.tells("47: byOrder: COST of a key asked twice counts twice", asking("77", Edge.EIGHT), x -> x.byOrder(0, 0), 16);
+        Edge.tells("47: byOrder: COST of a key asked twice counts twice", asking("77", Edge.EIGHT),
+                x -> x.byOrder(0, 0), 16);
         Edge.tells("47: byOrder: COST of 60", asking("7".repeat(60), Edge.EIGHT), x -> x.byOrder(0, 0), 480);
         Edge.tells("47: byOrder: COST by another ORDER", asking("77", turned), x -> x.byOrder(0, 0), 2);
         Edge.tells("47: byOrder: no INVERSIONS", asking("7", Edge.EIGHT), x -> x.byOrder(0, 1), 0);
         Edge.tells("47: byOrder: one INVERSION", asking("7", "1 0 2 3 4 5 6 7"), x -> x.byOrder(0, 1), 1);
-        Edge.tells("47: byOrder: the last behind brought ahead", asking("7", "7 0 1 2 3 4 5 6"), x -> x.byOrder(0, 1), 7);
+        Edge.tells("47: byOrder: the last behind brought ahead", asking("7", "7 0 1 2 3 4 5 6"),
+                x -> x.byOrder(0, 1), 7);
         Edge.tells("47: byOrder: the most INVERSIONS", asking("7", turned), x -> x.byOrder(0, 1), 28);
         Edge.tells("47: byOrder: BOUND with nothing asked", Edge.watched(Edge.EIGHT), x -> x.byOrder(0, 2), 0);
-        Edge.tells("47: byOrder: BOUND with nothing asked, INVERSIONS alone", Edge.watched(turned), x -> x.byOrder(0, 2), 28);
+        Edge.tells("47: byOrder: BOUND with nothing asked, INVERSIONS alone", Edge.watched(turned),
+                x -> x.byOrder(0, 2), 28);
         Edge.tells("47: byOrder: BOUND", asking("70", "1 0 2 3 4 5 6 7"), x -> x.byOrder(0, 2), 2 * (8 + 2) - 2 + 1);
         Edge.tells("47: byOrder: of the last list", asking("7").andThen(x -> x.places(3, 8)), x -> x.byOrder(3, 0), 8);
     }
@@ -142,7 +152,8 @@ final class RecencyEdgesTest {
         for (String text : none) {
             for (int each = 0; each <= 2; each++) {
                 int what = each;
-                Edge.refuses("47: byOrder: no ORDER is " + text + ", " + what, asking("73", text), x -> x.byOrder(0, what));
+                Edge.refuses("47: byOrder: no ORDER is " + text + ", " + what, asking("73", text),
+                        x -> x.byOrder(0, what));
             }
         }
         Edge.refuses("47: byOrder: an ORDER that was", asking("7", Edge.EIGHT).andThen(x -> x.take(0, 1)),

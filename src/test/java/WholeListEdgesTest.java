@@ -47,7 +47,8 @@ final class WholeListEdgesTest {
         Edge.becomes("19: places: 16", Edge.lists("4 5", "3"), x -> x.places(0, 16), 16, Edge.SIXTEEN, "3");
         Edge.becomes("19: places: 15 of 16", Edge.lists(Edge.times(16, 5)), x -> x.places(0, 15), 15, Edge.FIFTEEN);
         Edge.makesStale("19: places makes stale", 0, Edge.lists("4 5", "3"), x -> x.places(0, 3));
-        Edge.makesStale("19: places makes stale, also if it changes nothing", 0, Edge.lists("0 1", "3"), x -> x.places(0, 2));
+        Edge.makesStale("19: places makes stale, also if it changes nothing", 0, Edge.lists("0 1", "3"),
+                x -> x.places(0, 2));
         Edge.makesStale("19: places makes stale, also none to none", 0, Edge.lists("", "3"), x -> x.places(0, 0));
     }
 
@@ -57,10 +58,10 @@ final class WholeListEdgesTest {
         Edge.noPlace("20: rotate: the list goes ahead of by", Edge.watched("1"), x -> x.rotate(4, 100));
         Edge.badArgument("20: rotate: by goes ahead of NOTHING", Edge.watched(""), x -> x.rotate(0, -100));
         Edge.becomes("20: rotate: by 0", Edge.lists("4 5 6", "3"), x -> x.rotate(0, 0), 4, "4 5 6", "3");
-        Edge.becomes("20: rotate: by 1, from the end to the beginning", Edge.lists("4 5 6", "3"), x -> x.rotate(0, 1), 6,
-                "6 4 5", "3");
-        Edge.becomes("20: rotate: by -1, from the beginning to the end", Edge.lists("4 5 6", "3"), x -> x.rotate(0, -1), 5,
-                "5 6 4", "3");
+        Edge.becomes("20: rotate: by 1, from the end to the beginning", Edge.lists("4 5 6", "3"),
+                x -> x.rotate(0, 1), 6, "6 4 5", "3");
+        Edge.becomes("20: rotate: by -1, from the beginning to the end", Edge.lists("4 5 6", "3"),
+                x -> x.rotate(0, -1), 5, "5 6 4", "3");
         Edge.makesStale("20: rotate makes stale", 0, Edge.lists("4 5", "3"), x -> x.rotate(0, 1));
         Edge.makesStale("20: rotate makes stale, also by 0", 0, Edge.lists("4 5", "3"), x -> x.rotate(0, 0));
         Edge.makesStale("20: rotate makes stale, also quite round", 0, Edge.lists("4 5", "3"), x -> x.rotate(0, 2));
@@ -70,7 +71,8 @@ final class WholeListEdgesTest {
     private static void rotateRound() {
         String turned = "15 0 1 2 3 4 5 6 7 8 9 10 11 12 13 14";
         Edge.becomes("20: rotate: as many as there are", Edge.lists("4 5 6"), x -> x.rotate(0, 3), 4, "4 5 6");
-        Edge.becomes("20: rotate: as many as there are, backward", Edge.lists("4 5 6"), x -> x.rotate(0, -3), 4, "4 5 6");
+        Edge.becomes("20: rotate: as many as there are, backward", Edge.lists("4 5 6"), x -> x.rotate(0, -3), 4,
+                "4 5 6");
         Edge.becomes("20: rotate: one more than there are", Edge.lists("4 5 6"), x -> x.rotate(0, 4), 6, "6 4 5");
         Edge.becomes("20: rotate: one more, backward", Edge.lists("4 5 6"), x -> x.rotate(0, -4), 5, "5 6 4");
         Edge.becomes("20: rotate: by 99", Edge.lists("4 5 6 7"), x -> x.rotate(0, 99), 5, "5 6 7 4");
@@ -102,9 +104,11 @@ final class WholeListEdgesTest {
         Edge.becomes("21: move: the last to where it stands", Edge.lists("4 5 6"), x -> x.move(0, 2, 2), 6, "4 5 6");
         Edge.becomes("21: move: the only one", Edge.lists("4", "3"), x -> x.move(0, 0, 0), 4, "4", "3");
         Edge.becomes("21: move: in 16", Edge.lists(Edge.SIXTEEN), x -> x.move(0, 15, 0), 15, "15 " + Edge.FIFTEEN);
-        Edge.becomes("21: move: in 16, on", Edge.lists("9 " + Edge.FIFTEEN), x -> x.move(0, 0, 15), 9, Edge.FIFTEEN + " 9");
+        Edge.becomes("21: move: in 16, on", Edge.lists("9 " + Edge.FIFTEEN),
+                x -> x.move(0, 0, 15), 9, Edge.FIFTEEN + " 9");
         Edge.makesStale("21: move makes stale", 0, Edge.lists("4 5", "3"), x -> x.move(0, 0, 1));
-        Edge.makesStale("21: move makes stale, also to where it stands", 0, Edge.lists("4 5", "3"), x -> x.move(0, 1, 1));
+        Edge.makesStale("21: move makes stale, also to where it stands", 0, Edge.lists("4 5", "3"),
+                x -> x.move(0, 1, 1));
     }
 
     private static void swap() {
@@ -112,8 +116,10 @@ final class WholeListEdgesTest {
         Edge.places("22: swap: one", 0, 2, Edge.watched("4 5 6", "3"), (x, one) -> x.swap(0, one, 1));
         Edge.places("22: swap: other", 0, 2, Edge.watched("4 5 6", "3"), (x, other) -> x.swap(0, 1, other));
         Edge.noPlace("22: swap: of none", Edge.watched("", "3"), x -> x.swap(0, 0, 0));
-        Edge.becomes("22: swap: the first and the last", Edge.lists("4 5 6", "3"), x -> x.swap(0, 0, 2), 6, "6 5 4", "3");
-        Edge.becomes("22: swap: the last and the first", Edge.lists("4 5 6", "3"), x -> x.swap(0, 2, 0), 4, "6 5 4", "3");
+        Edge.becomes("22: swap: the first and the last", Edge.lists("4 5 6", "3"), x -> x.swap(0, 0, 2), 6, "6 5 4",
+                "3");
+        Edge.becomes("22: swap: the last and the first", Edge.lists("4 5 6", "3"), x -> x.swap(0, 2, 0), 4, "6 5 4",
+                "3");
         Edge.becomes("22: swap: neighbours", Edge.lists("4 5 6"), x -> x.swap(0, 1, 2), 6, "4 6 5");
         Edge.becomes("22: swap: one with itself", Edge.lists("4 5 6"), x -> x.swap(0, 1, 1), 5, "4 5 6");
         Edge.becomes("22: swap: the only one", Edge.lists("4"), x -> x.swap(0, 0, 0), 4, "4");
@@ -150,18 +156,18 @@ final class WholeListEdgesTest {
         Edge.places("24: through: into", 0, 3, Edge.watched("0", "0"), (x, into) -> x.through(0, 1, into));
         Edge.becomes("24: through: no map", Edge.lists("4 5", "", "7 8"), x -> x.through(0, 1, 2), 0, "4 5");
         Edge.becomes("24: through: no map, no list", Edge.lists("", "", "7 8"), x -> x.through(0, 1, 2), 0);
-        Edge.becomes("24: through: the first and the last place", Edge.lists("4 5 6", "0 2"), x -> x.through(0, 1, 2), 2,
-                "4 5 6", "0 2", "4 6");
+        Edge.becomes("24: through: the first and the last place", Edge.lists("4 5 6", "0 2"),
+                x -> x.through(0, 1, 2), 2, "4 5 6", "0 2", "4 6");
         Edge.becomes("24: through: a place more than once", Edge.lists("4 5", "1 1 0 1"), x -> x.through(0, 1, 2), 4,
                 "4 5", "1 1 0 1", "5 5 4 5");
-        Edge.becomes("24: through: into the list, as it was ahead", Edge.lists("4 5 6", "2 0 0"), x -> x.through(0, 1, 0), 3,
-                "6 4 4", "2 0 0");
-        Edge.becomes("24: through: into the map, as it was ahead", Edge.lists("4 5 6", "2 0 1"), x -> x.through(0, 1, 1), 3,
-                "4 5 6", "6 4 5");
+        Edge.becomes("24: through: into the list, as it was ahead", Edge.lists("4 5 6", "2 0 0"),
+                x -> x.through(0, 1, 0), 3, "6 4 4", "2 0 0");
+        Edge.becomes("24: through: into the map, as it was ahead", Edge.lists("4 5 6", "2 0 1"),
+                x -> x.through(0, 1, 1), 3, "4 5 6", "6 4 5");
         Edge.becomes("24: through: by itself", Edge.lists("2 0 1"), x -> x.through(0, 0, 1), 3, "2 0 1", "1 2 0");
         Edge.becomes("24: through: by itself into itself", Edge.lists("2 0 1"), x -> x.through(0, 0, 0), 3, "1 2 0");
-        Edge.becomes("24: through: 16 by 16", Edge.lists(Edge.SIXTEEN, Edge.times(16, 15), "7"), x -> x.through(0, 1, 2), 16,
-                Edge.SIXTEEN, Edge.times(16, 15), Edge.times(16, 15));
+        Edge.becomes("24: through: 16 by 16", Edge.lists(Edge.SIXTEEN, Edge.times(16, 15), "7"),
+                x -> x.through(0, 1, 2), 16, Edge.SIXTEEN, Edge.times(16, 15), Edge.times(16, 15));
         Edge.makesStale("24: through makes stale over into alone", 2, Edge.lists("4 5", "1"), x -> x.through(0, 1, 2));
         Edge.makesStale("24: through makes stale, also if it changes nothing", 2, Edge.lists("4", "", ""),
                 x -> x.through(0, 1, 2));
@@ -177,8 +183,15 @@ final class WholeListEdgesTest {
         Edge.refuses("24: through: the least item is no place", Edge.watched("4 5", "-9999"), x -> x.through(0, 1, 2));
         Edge.refuses("24: through: 0 is no place of none", Edge.watched("", "0", "7"), x -> x.through(0, 1, 2));
         Edge.refuses("24: through: 16 is no place of 16", Edge.watched(Edge.SIXTEEN, "15 16"), x -> x.through(0, 1, 2));
-        Edge.refuses("24: through: the last of the map is none", Edge.watched("4 5", "0 1 0 2"), x -> x.through(0, 1, 0));
+        Edge.refuses("24: through: the last of the map is none", Edge.watched("4 5", "0 1 0 2"),
+                x -> x.through(0, 1, 0));
         Edge.refuses("24: through: a place of the map alone", Edge.watched("4", "0 1"), x -> x.through(0, 1, 1));
+        Edge.becomes("24: through: one that was REFUSED part way leaves nothing to the next",
+                Edge.lists("4 5 6", "0 1 9", "2").andThen(x -> x.through(0, 1, 3)), x -> x.through(0, 2, 3), 1,
+                "4 5 6", "0 1 9", "2", "6");
+        Edge.becomes("24: through: one that was told leaves nothing to the next",
+                Edge.lists("4 5 6", "0 1", "2").andThen(x -> x.through(0, 1, 3)), x -> x.through(0, 2, 3), 1,
+                "4 5 6", "0 1", "2", "6");
         Edge.noPlace("24: through: into goes ahead of REFUSED", Edge.watched("4", "1"), x -> x.through(0, 1, 4));
         Edge.noPlace("24: through: into -1 goes ahead of REFUSED", Edge.watched("4", "1"), x -> x.through(0, 1, -1));
         Edge.leavesCursors("24: through REFUSED leaves cursors", Edge.lists("4 5", "2"), x -> x.through(0, 1, 2));
@@ -198,8 +211,8 @@ final class WholeListEdgesTest {
         Edge.tells("25: areSame: another last", Edge.watched("4 5", "4 6"), x -> x.areSame(0, 1), false);
         Edge.tells("25: areSame: at other places", Edge.watched("4 5", "5 4"), x -> x.areSame(0, 1), false);
         Edge.tells("25: areSame: 16 alike", Edge.watched(Edge.SIXTEEN, Edge.SIXTEEN), x -> x.areSame(0, 1), true);
-        Edge.tells("25: areSame: 16, another last", Edge.watched(Edge.SIXTEEN, Edge.FIFTEEN + " 16"), x -> x.areSame(0, 1),
-                false);
+        Edge.tells("25: areSame: 16, another last", Edge.watched(Edge.SIXTEEN, Edge.FIFTEEN + " 16"),
+                x -> x.areSame(0, 1), false);
         Edge.tells("25: areSame: what went is not looked at", Edge.lists("4 5", "4 6").andThen(x -> {
             x.take(0, 1);
             x.take(1, 1);
