@@ -4,8 +4,8 @@ import java.util.function.Function;
 
 /**
  * Boundary cases. Each is a test of its own: an object is made ready, then one call is made, and what it answers and
- * what it leaves behind is compared with what is due. "Changes nothing" is looked at on a twin that was made ready alike
- * and not called: all that the two tell afterwards is the same, up to which item each cursor told last.
+ * what it leaves behind is compared with what is due. "Changes nothing" is looked at on a twin that was made ready
+ * alike and not called: all that the two tell afterwards is the same, up to which item each cursor told last.
  */
 final class Edge {
 
