@@ -515,7 +515,7 @@ public final class Cursorlist {
     }
 
     private int putInto(int list, int place, int item) {
-        Row row = lists[list];
+        Row row = listAt(list);
         if (!row.putIn(place, item)) {
             return refuse();
         }
@@ -524,7 +524,7 @@ public final class Cursorlist {
     }
 
     private int takeFrom(int list, int place) {
-        int item = lists[list].takeOut(place);
+        int item = listAt(list).takeOut(place);
         makeStale(list, NONE);
         return item;
     }
@@ -533,7 +533,7 @@ public final class Cursorlist {
         if (!canBe) {
             return refuse();
         }
-        lists[list].become(result);
+        listAt(list).become(result);
         makeStale(list, NONE);
         return result.count;
     }
@@ -551,7 +551,7 @@ public final class Cursorlist {
     }
 
     private Row rowUnder(Cursor cursor) {
-        return lists[cursor.list];
+        return listAt(cursor.list);
     }
 
     private static int sumUntilMet(Cursor a, Cursor b, Row row) {

@@ -1,9 +1,15 @@
+import java.io.IOException;
+import java.nio.file.Files;
+import java.nio.file.Path;
+import java.util.List;
+
 /** What the tests share: comparing answers, counting tests, and making objects that are ready for a test. */
 final class Check {
 
     static final int NONE = -1;
     static final int NOTHING = 10000;
     static final int REFUSED = -1000009;
+    static final Path DOCUMENT = Path.of("../shared/DOC.md");
 
     private static int passed = 0;
     private static int failed = 0;
@@ -148,6 +154,14 @@ final class Check {
         x.clear(list);
         for (int item : items) {
             x.put(list, 1, item);
+        }
+    }
+
+    static List<String> linesOf(Path path) {
+        try {
+            return Files.readAllLines(path);
+        } catch (IOException e) {
+            throw new IllegalStateException("can not read " + path, e);
         }
     }
 

@@ -3,7 +3,6 @@ import java.lang.reflect.Field;
 import java.lang.reflect.Member;
 import java.lang.reflect.Method;
 import java.lang.reflect.Modifier;
-import java.nio.file.Files;
 import java.nio.file.Path;
 import java.util.ArrayList;
 import java.util.List;
@@ -12,7 +11,6 @@ import java.util.TreeSet;
 /** The class shows just the face of the document, and keeps the rules of the language that a program can look at. */
 final class FaceTest {
 
-    private static final Path DOCUMENT = Path.of("../shared/DOC.md");
     private static final Path SOURCE = Path.of("src/main/java/Cursorlist.java");
 
     private FaceTest() {
@@ -30,7 +28,7 @@ final class FaceTest {
     private static void face() {
         TreeSet<String> want = new TreeSet<>();
         boolean isFace = false;
-        for (String line : linesOf(DOCUMENT)) {
+        for (String line : Check.linesOf(Check.DOCUMENT)) {
             if (line.startsWith("public final class")) {
                 isFace = true;
             } else if (line.startsWith("}")) {
@@ -117,21 +115,13 @@ final class FaceTest {
             "import ", "package ", "->", "::", "finally", "synchronized", "assert ", "Exact(", "catch", "try ",
             "System.", "Random", "Thread", "native ", "volatile", "transient", "instanceof", "\"+", "+ \"", "@"
         };
-        for (String line : linesOf(SOURCE)) {
+        for (String line : Check.linesOf(SOURCE)) {
             for (String word : ruledOut) {
                 if (line.contains(word)) {
                     Check.tellWrong("the source uses " + word + ": " + line.trim());
                 }
             }
             Check.due(line.chars().allMatch(sign -> sign >= 32 && sign < 127), true);
-        }
-    }
-
-    private static List<String> linesOf(Path path) {
-        try {
-            return Files.readAllLines(path);
-        } catch (java.io.IOException e) {
-            throw new IllegalStateException("can not read " + path, e);
         }
     }
 }
